@@ -419,8 +419,11 @@ public final class TypeCourt {
         }
 
         boolean beginsConcept() {
-            return sort == FREE_WORD || word == OPEN || word == TOP || word == BOTTOM
-                || word == NOT || word == SOME || word == EVERY;
+            return sort == FREE_WORD || word == TOP || word == BOTTOM || holdsConcept();
+        }
+
+        boolean holdsConcept() {
+            return word == NOT || word == SOME || word == EVERY || word == OPEN;
         }
     }
 
@@ -506,48 +509,40 @@ public final class TypeCourt {
             return atomCount - 1;
         }
 
-        boolean isNode(int node) {
-            return node >= 0 && node < size;
-        }
-
         int sortOf(int node) {
-            return isNode(node) ? sorts[node] : NONE;
+            return node >= 0 && node < size ? sorts[node] : NONE;
         }
 
         int leftOf(int node) {
-            return isNode(node) ? lefts[node] : NONE;
+            return node >= 0 && node < size ? lefts[node] : NONE;
         }
 
         int rightOf(int node) {
-            return isNode(node) ? rights[node] : NONE;
+            return node >= 0 && node < size ? rights[node] : NONE;
         }
 
         int atomOf(int node) {
-            return isNode(node) ? atoms[node] : NONE;
+            return node >= 0 && node < size ? atoms[node] : NONE;
         }
 
         int nodeOfName(int name) {
             return find(IS_NAME, name, 0);
         }
 
-        boolean isAtom(int atom) {
-            return atom >= 0 && atom < atomCount;
-        }
-
         int roleOfAtom(int atom) {
-            return isAtom(atom) ? atomRoles[atom] : NONE;
+            return atom >= 0 && atom < atomCount ? atomRoles[atom] : NONE;
         }
 
         int nameOfAtom(int atom) {
-            return isAtom(atom) ? atomNames[atom] : NONE;
+            return atom >= 0 && atom < atomCount ? atomNames[atom] : NONE;
         }
 
         int partOfAtom(int atom) {
-            return isAtom(atom) ? atomParts[atom] : NONE;
+            return atom >= 0 && atom < atomCount ? atomParts[atom] : NONE;
         }
 
         boolean isTurned(int atom) {
-            return isAtom(atom) && atomTurns[atom] == 1;
+            return atom >= 0 && atom < atomCount && atomTurns[atom] == 1;
         }
     }
 
@@ -886,7 +881,7 @@ public final class TypeCourt {
             if (!tokens.beginsConcept()) {
                 return misplaced();
             }
-            if (depth >= DEPTH) {
+            if (depth >= DEPTH && tokens.holdsConcept()) {
                 return failHere(3);
             }
             if (tokens.word != OPEN && !countConcept()) {
@@ -981,10 +976,12 @@ public final class TypeCourt {
         /** By ROLE, as bits: the ATOMS of it; and those of it and of what it is UNDER. */
         private final int[] ownAtoms = new int[ROLES];
         private final int[] farAtoms = new int[ROLES];
+        private int roleAtoms;
         final long[] fair = new long[ROW];
         final long[] standing = new long[ROW];
         private final long[] trial = new long[ROW];
         private final long[] before = new long[ROW];
+        private final long[] met = new long[ROW];
         private final short[] ranks = new short[TYPES];
         int rounds;
 
@@ -1027,8 +1024,7 @@ public final class TypeCourt {
         }
 
         private long truthOf(int node, int w) {
-            return concepts.isNode(node) && node < CONCEPTS && w >= 0 && w < ROW
-                ? truths[node * ROW + w] : 0;
+            return node >= 0 && node < CONCEPTS && w >= 0 && w < ROW ? truths[node * ROW + w] : 0;
         }
 
         /** Of the w-th 64 TYPES those whose bit k is set. */
@@ -1045,6 +1041,7 @@ public final class TypeCourt {
         }
 
         private void gatherAtoms() {
+            roleAtoms = 0;
             for (int r = 0; r < ROLES; r++) {
                 ownAtoms[r] = 0;
                 farAtoms[r] = 0;
@@ -1057,6 +1054,7 @@ public final class TypeCourt {
                         farAtoms[r] |= 1 << k;
                     }
                 }
+                roleAtoms |= ownAtoms[r];
             }
         }
 
@@ -1090,12 +1088,17 @@ public final class TypeCourt {
             return TYPES;
         }
 
+        /** Only the ATOMS of ROLES bear on being MET, so TYPES with the same of these are asked once. */
         private boolean goRound(long[] row, int rank) {
             System.arraycopy(row, 0, before, 0, ROW);
             boolean took = false;
             for (int t = 0; t < types && t < TYPES; t++) {
-                if (has(before, t) && !isMet(t)) {
-                    row[t >> 6] &= ~(1L << t);
+                int bearing = t & roleAtoms;
+                if (bearing == t) {
+                    put(met, t, isMet(t));
+                }
+                if (has(before, t) && !has(met, bearing)) {
+                    put(row, t, false);
                     took = true;
                     if (rank > 0) {
                         ranks[t] = (short) rank;
@@ -1227,6 +1230,14 @@ public final class TypeCourt {
             return w >= 0 && w < row.length && (row[w] >> type & 1) == 1;
         }
 
+        private static void put(long[] row, int type, boolean set) {
+            int w = type >> 6;
+            if (w >= 0 && w < row.length) {
+                long bit = 1L << type;
+                row[w] = set ? row[w] | bit : row[w] & ~bit;
+            }
+        }
+
         private static int lowestBit(long word) {
             return Long.bitCount((word & -word) - 1);
         }
@@ -1326,20 +1337,22 @@ public final class TypeCourt {
             size = 0;
             for (int s = 0; s < book.statementCount; s++) {
                 printStatement(book.statement(s));
-                putByte(END_SIGN);
-                putByte(10);
+                putWord(END_SIGN);
+                putWord('\n');
             }
         }
 
         private void printStatement(int statement) {
             int left = Book.leftOf(statement);
             int right = Book.rightOf(statement);
-            switch (Book.sortOf(statement)) {
+            int sort = Book.sortOf(statement);
+            switch (sort) {
                 case LESS_RULE:
-                    printRule(left, LESS, right);
-                    break;
                 case EQUAL_RULE:
-                    printRule(left, EQUAL, right);
+                    printConcept(left);
+                    putWord(' ');
+                    putBehind(sort == LESS_RULE ? LESS : EQUAL);
+                    printConcept(right);
                     break;
                 case QUESTION:
                     putBehind(ASK);
@@ -1357,13 +1370,6 @@ public final class TypeCourt {
             }
         }
 
-        private void printRule(int left, long sign, int right) {
-            printConcept(left);
-            putByte(' ');
-            putBehind(sign);
-            printConcept(right);
-        }
-
         /** Goes without recursion, because chains of and, or are as deep as they are long. */
         private void printConcept(int node) {
             waitingCount = 0;
@@ -1372,8 +1378,8 @@ public final class TypeCourt {
                 waitingCount--;
                 int item = waiting[waitingCount];
                 switch (item) {
-                    case PUT_OPEN: putByte(OPEN); break;
-                    case PUT_CLOSE: putByte(CLOSE); break;
+                    case PUT_OPEN: putWord(OPEN); break;
+                    case PUT_CLOSE: putWord(CLOSE); break;
                     case PUT_AND: putJoint(AND); break;
                     case PUT_OR: putJoint(OR); break;
                     default: printNode(item); break;
@@ -1427,28 +1433,22 @@ public final class TypeCourt {
         }
 
         private void putJoint(long word) {
-            putByte(' ');
+            putWord(' ');
             putBehind(word);
         }
 
         private void putBehind(long word) {
             putWord(word);
-            putByte(' ');
+            putWord(' ');
         }
 
         private void putWord(long word) {
             for (int shift = 56; shift >= 0; shift -= 8) {
                 long letter = word >> shift & 255;
-                if (letter != 0) {
-                    putByte(letter);
+                if (letter != 0 && size < OUT_BYTES) {
+                    bytes[size] = (byte) letter;
+                    size++;
                 }
-            }
-        }
-
-        private void putByte(long sign) {
-            if (size < OUT_BYTES) {
-                bytes[size] = (byte) sign;
-                size++;
             }
         }
     }

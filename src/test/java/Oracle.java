@@ -279,7 +279,7 @@ final class Oracle {
             if (conceptTokens.contains(i) && ++concepts > 200) {
                 found.add(3);
             }
-            if (depths.getOrDefault(i, 0) >= 12) {
+            if (depths.getOrDefault(i, 0) >= 12 && List.of("not", "some", "every", "(").contains(t)) {
                 found.add(3);
             }
             String use = uses.get(i);

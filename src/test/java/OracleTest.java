@@ -13,6 +13,8 @@ public final class OracleTest {
         Random random = new Random(7);
         int whole = 0;
         int[] faults = new int[7];
+        TypeCourt x = new TypeCourt();
+        Oracle last = null;
         int many = args.length > 0 ? Integer.parseInt(args[0]) : 3000;
         for (int n = 0; n < many; n++) {
             String text = text(random, n % 3 == 0);
@@ -20,16 +22,24 @@ public final class OracleTest {
                 continue;
             }
             Oracle due = new Oracle(text);
-            TypeCourt x = Due.fed(text);
+            // An object takes some books and faulty texts one after the other: nothing of one may stay.
+            if (n % 7 == 0) {
+                x = new TypeCourt();
+                last = null;
+            }
+            x.cut(0);
+            Due.feed(x, text);
             int before = Due.wrongSoFar();
             Due.is("read()", x.read(), due.fault == 0 ? due.concepts : -due.fault);
             Due.is("place()", x.place(), due.place);
             faults[due.fault]++;
             if (due.fault == 0) {
                 whole++;
+                last = due;
                 compare(x, due, random);
-            } else {
-                Due.is("count(4)", x.count(4), -101);
+            } else if (last != null) {
+                Due.is("count(4) of the book before", x.count(4), last.concepts);
+                Due.is("count(7) of the book before", x.count(7), last.standing.size());
             }
             if (Due.wrongSoFar() != before) {
                 System.out.println("in the text of round " + n + ": " + text);
@@ -44,8 +54,8 @@ public final class OracleTest {
     private static void compare(TypeCourt x, Oracle due, Random random) {
         mostRounds = Math.max(mostRounds, due.rounds);
         int[] counts = {due.names.size(), due.roles.size(), due.rules.size(), due.questions.size(),
-            due.concepts, due.atomKeys.size(), due.fair.size(), due.standing.size(), due.rounds, 0, 0, 0};
-        for (int w = 0; w < 12; w++) {
+            due.concepts, due.atomKeys.size(), due.fair.size(), due.standing.size(), due.rounds, 0, 0};
+        for (int w = 0; w < 11; w++) {
             Due.is("count(" + w + ")", x.count(w), counts[w]);
         }
         for (int k = 0; k < due.atomKeys.size(); k++) {

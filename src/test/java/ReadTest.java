@@ -11,6 +11,7 @@ public final class ReadTest {
         rolesUnderThemselves();
         leastFaultOfTheFirstToken();
         faultChangesOnlyTapeAndPlace();
+        nothingStaysOfBooksBefore();
         Due.end();
     }
 
@@ -19,7 +20,8 @@ public final class ReadTest {
         Due.noFault(" \n \n");
         Due.noFault("a<b;a=b;ask a;under r s;single t;");
         Due.noFault("\nask\nsome r((a)and\nb);  ");
-        Due.noFault("abcdefg8 < z9;");
+        Due.noFault("abcdefg8 < z9; a0 < zzzzzzzz;");
+        Due.fault("ask 0;", 1, 4);
         Due.noFault("ask askx and tops and not1 and orr;");
         Due.noFault("under r s; under r s; single t; single t;");
         Due.is("CONCEPTS", Due.fed("a < not b and some r (top or (bottom)); ask every r a;").read(), 10);
@@ -105,18 +107,22 @@ public final class ReadTest {
         Due.fault(chain + "ask a; ask (bottom);", 3, size + 12);
     }
 
+    /** What is within 12 others is itself one of not, some, every, ( as they are. */
     private static void tooDeep() {
-        Due.noFault("ask " + Due.times("(", 11) + "a" + Due.times(")", 11) + ";");
-        Due.noFault("ask " + Due.times("not ", 11) + "a;");
-        Due.fault("ask " + Due.times("(", 12) + "a" + Due.times(")", 12) + ";", 3, 16);
+        Due.noFault("ask " + Due.times("(", 12) + "a and b" + Due.times(")", 12) + ";");
+        Due.noFault("ask " + Due.times("not ", 12) + "a;");
+        Due.noFault("ask " + Due.times("not ", 11) + "some r top;");
         Due.fault("ask " + Due.times("(", 13) + "a" + Due.times(")", 13) + ";", 3, 16);
-        Due.fault("ask " + Due.times("not ", 12) + "a;", 3, 52);
         Due.fault("ask " + Due.times("not ", 13) + "a;", 3, 52);
-        Due.fault("ask " + Due.times("some r ", 6) + Due.times("every r(", 3) + "top", 3, 70);
+        Due.fault("ask " + Due.times("not ", 12) + "(a);", 3, 52);
+        Due.fault("ask " + Due.times("not ", 12) + "some r a;", 3, 52);
+        Due.fault("ask " + Due.times("not ", 12) + "every #", 3, 52);
+        Due.fault("ask " + Due.times("some r ", 6) + Due.times("every r(", 3) + "not top", 3, 70);
+        Due.fault(Due.times("(", 13) + "a", 3, 12);
         // what is closed does not count
         Due.noFault("ask " + Due.times("(not a) and ", 14) + "a;");
         Due.noFault(Due.times("ask not (not (not (not a)));", 5));
-        Due.noFault("ask " + Due.times("(", 11) + "a and a or a" + Due.times(")", 11) + " and a;");
+        Due.noFault("ask " + Due.times("(", 12) + "a and a or a" + Due.times(")", 12) + " and not a;");
     }
 
     private static void wordsOfTheOtherSort() {
@@ -174,7 +180,7 @@ public final class ReadTest {
         Due.fault("single r; ask a and b and c and d and e and r;", 4, 44);
         Due.fault("ask " + Due.times("not ", 12) + "#", 1, 52);
         Due.fault("ask " + Due.times("not ", 12) + ";", 2, 52);
-        Due.fault("single r; ask " + Due.times("not ", 12) + "r", 3, 62);
+        Due.fault("single r; ask " + Due.times("not ", 12) + "r", 4, 62);
     }
 
     private static void faultChangesOnlyTapeAndPlace() {
@@ -201,5 +207,20 @@ public final class ReadTest {
         TypeCourt y = Due.fed("ask a");
         Due.is("read", y.read(), -2);
         TapeTest.noBook(y);
+    }
+
+    private static void nothingStaysOfBooksBefore() {
+        TypeCourt x = new TypeCourt();
+        for (int n = 0; n < 4; n++) {
+            Due.feed(x, "under r s; under s t; a < b; ask c and some r a;");
+            Due.is("read", x.read(), 6);
+            Due.feed(x, "under t s; single a; ask some a t;");
+            Due.is("read", x.read(), -4);
+            Due.feed(x, "under t s; under s r; ask some r d and every t not d;");
+            Due.is("read", x.read(), 6);
+            Due.is("count(0)", x.count(0), 1);
+            Due.is("count(1)", x.count(1), 3);
+            Due.is("ask(0)", x.ask(0), 1);
+        }
     }
 }

@@ -42,6 +42,9 @@ public final class WorldTest {
         // ATOMS a, b, SOME r b, c, SOME r c: one EDGE for both
         TypeCourt x = Due.told("single r; a < some r b and some r c; ask a;");
         world(x, 0, new int[] {21, 10}, new int[][] {{0, 1, 0}});
+        // ATOMS SOME r top, a, SOME r a
+        TypeCourt z = Due.told("single r; ask some r top and some r a;");
+        world(z, 0, new int[] {5, 2}, new int[][] {{0, 1, 0}});
         TypeCourt y = Due.told("a < some r b and some r c; ask a;");
         world(y, 0, new int[] {21, 2, 8}, new int[][] {{0, 1, 0}, {0, 2, 0}});
     }
