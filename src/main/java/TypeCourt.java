@@ -81,12 +81,12 @@ public final class TypeCourt {
 
     public TypeCourt() {
         tape = new byte[TAPE_BYTES];
-        reader = new Reader();
         book = new Book();
         spare = new Book();
-        kinds = new Kinds();
+        reader = new Reader(tape, spare);
+        kinds = new Kinds(book);
         world = new World();
-        printer = new Printer();
+        printer = new Printer(book);
     }
 
     public int feed(int a, int b, int c, int d, int e) {
@@ -120,7 +120,7 @@ public final class TypeCourt {
     }
 
     public int read() {
-        boolean taken = reader.takeIn(tape, tapeSize, spare);
+        boolean taken = reader.takeIn(tapeSize, spare);
         tapeSize = 0;
         if (!taken) {
             return -reader.fault;
@@ -347,15 +347,18 @@ public final class TypeCourt {
 
     /** Takes a text apart into TOKENS; shows one at a time. */
     private static final class Tokens {
-        private byte[] text;
+        private final byte[] text;
         private int length;
         private int next;
         int from;
         int sort;
         long word;
 
-        void start(byte[] text, int length) {
+        Tokens(byte[] text) {
             this.text = text;
+        }
+
+        void start(int length) {
             this.length = Math.min(length, text.length);
             next = 0;
             step();
@@ -706,19 +709,25 @@ public final class TypeCourt {
 
     /** Makes a book of a text, or finds the text's first FAULT. */
     private static final class Reader {
-        private final Tokens tokens = new Tokens();
+        private final Tokens tokens;
         private Book book;
         private Concepts concepts;
         int fault;
         int faultPlace = NONE;
 
-        boolean takeIn(byte[] text, int length, Book into) {
+        Reader(byte[] text, Book into) {
+            tokens = new Tokens(text);
+            book = into;
+            concepts = into.concepts;
+        }
+
+        boolean takeIn(int length, Book into) {
             book = into;
             concepts = into.concepts;
             book.clear();
             fault = 0;
             faultPlace = NONE;
-            tokens.start(text, length);
+            tokens.start(length);
             for (int n = 0; n <= length && fault == 0 && tokens.sort != THE_END; n++) {
                 if (tokens.word == ASK) {
                     takeQuestion();
@@ -984,6 +993,11 @@ public final class TypeCourt {
         private final long[] met = new long[ROW];
         private final short[] ranks = new short[TYPES];
         int rounds;
+
+        Kinds(Book told) {
+            book = told;
+            concepts = told.concepts;
+        }
 
         void workOut(Book told) {
             book = told;
@@ -1331,6 +1345,10 @@ public final class TypeCourt {
         private Book book;
         private final int[] waiting = new int[WAITING];
         private int waitingCount;
+
+        Printer(Book told) {
+            book = told;
+        }
 
         void printBook(Book told) {
             book = told;
