@@ -2,8 +2,14 @@
 final class Due {
     private static int wrong = 0;
     private static int asked = 0;
+    private static String sentence = "";
 
     private Due() {
+    }
+
+    /** The words of the document that the answers from here on stand for. */
+    static void sentence(String words) {
+        sentence = "[" + words + "] ";
     }
 
     static void is(String call, int got, int want) {
@@ -11,7 +17,7 @@ final class Due {
         if (got != want) {
             wrong++;
             if (wrong <= 40) {
-                System.out.println(call + " answered " + got + ", due is " + want);
+                System.out.println(sentence + call + " answered " + got + ", due is " + want);
             }
         }
     }
@@ -20,7 +26,7 @@ final class Due {
         asked++;
         if (!got.equals(want)) {
             wrong++;
-            System.out.println(call + " answered\n" + got + "due is\n" + want);
+            System.out.println(sentence + call + " answered\n" + got + "due is\n" + want);
         }
     }
 
@@ -56,7 +62,7 @@ final class Due {
         int answer = x.read();
         if (answer < 0) {
             wrong++;
-            System.out.println("read() of " + text + " answered " + answer + " at " + x.place());
+            System.out.println(sentence + "read() of " + text + " answered " + answer + " at " + x.place());
         }
         return x;
     }
@@ -81,6 +87,49 @@ final class Due {
             s.append((char) x.out(i));
         }
         return s.toString();
+    }
+
+    /** All that can be seen of an object without a change, THE TAPE aside. */
+    static String state(TypeCourt x) {
+        StringBuilder s = new StringBuilder().append("place ").append(x.place()).append(" counts");
+        for (int what = 0; what < 12; what++) {
+            s.append(' ').append(x.count(what));
+        }
+        if (x.count(0) == TypeCourt.STATE) {
+            return s.append(" out ").append(out(x)).toString();
+        }
+        s.append("\natoms");
+        for (int k = 0; k < x.count(5); k++) {
+            s.append(' ').append(x.atom(k, 0)).append('/').append(x.atom(k, 1));
+        }
+        s.append("\ntypes");
+        for (int t = 0; t < 1 << x.count(5); t++) {
+            s.append(' ').append(x.rank(t));
+            for (int r = 0; r < x.count(1); r++) {
+                s.append(x.goes(t, r, 1) == 1 ? "+" : "-");
+            }
+            for (int q = 0; q < x.count(3); q++) {
+                s.append(x.at(q, t));
+            }
+        }
+        s.append("\nnames");
+        for (int a = 0; a < x.count(0); a++) {
+            for (int b = 0; b < x.count(0); b++) {
+                s.append(' ').append(x.isUnder(a, b)).append('/').append(x.next(a, b));
+            }
+        }
+        s.append("\nquestions");
+        for (int q = 0; q < x.count(3); q++) {
+            s.append(' ').append(x.ask(q)).append('/').append(x.bones(q)).append('/').append(x.same(0, q));
+        }
+        s.append("\nworld");
+        for (int t = 0; t < x.count(9); t++) {
+            s.append(' ').append(x.thing(t));
+        }
+        for (int e = 0; e < x.count(10); e++) {
+            s.append(' ').append(x.edge(e, 0)).append('/').append(x.edge(e, 1)).append('/').append(x.edge(e, 2));
+        }
+        return s.append("\nout ").append(out(x)).toString();
     }
 
     static String times(String part, int n) {
