@@ -439,6 +439,9 @@ public final class CallBoundsTest {
         Due.sentence("13: and none lies between: a UNDER that, that UNDER it, neither the other way");
         nexts("a < b; b < c; a < c;", new int[] {1}, new int[] {2}, new int[0]);
         nexts("c < b; b < a; c < a;", new int[] {1}, new int[] {2}, new int[0]);
+        nexts("ask b; a < b; b < c; a < c;", new int[] {2}, new int[] {0}, new int[0]);
+        nexts("ask d; ask c; a < b; b < c; a < d; d < c; e < a;", new int[] {1}, new int[0], new int[] {0, 3}, new int[] {1},
+            new int[] {2});
         nexts("a < b; a < c; b < d; c < d; a < d; d < e;", new int[] {1, 2}, new int[] {3}, new int[] {3}, new int[] {4}, new int[0]);
         // what is the same as one end lies not between
         nexts("a = b; b < c; c = d;", new int[] {2, 3}, new int[] {2, 3}, new int[0], new int[0]);

@@ -205,6 +205,11 @@ public final class FaultBoundsTest {
         Due.is("199 CONCEPTS", Due.fed(CHAIN).read(), 199);
         Due.is("200 CONCEPTS", Due.fed(CHAIN + "ask a;").read(), 200);
         Due.is("200 CONCEPTS of not", Due.fed("ask a" + Due.times(" and a", 98) + "; ask not not a;").read(), 200);
+        String fewer = "ask a" + Due.times(" and a", 98) + ";";
+        Due.is("200 CONCEPTS of some", Due.fed(fewer + "ask some r some s a;").read(), 200);
+        Due.is("200 CONCEPTS of every", Due.fed(fewer + "ask every r (every s (top));").read(), 200);
+        Due.is("200 CONCEPTS of or", Due.fed(fewer + "ask (a or bottom);").read(), 200);
+        Due.is("200 CONCEPTS of a RULE", Due.fed(fewer + "a < not a;").read(), 200);
         Due.is("200 CONCEPTS and brackets", Due.fed(CHAIN + "ask ((a)); under r s;").read(), 200);
         int end = CHAIN.length();
         Due.fault(CHAIN + "ask a; ask a;", 3, end + 11);
@@ -368,6 +373,21 @@ public final class FaultBoundsTest {
         Due.noFault("single r; under s t; single r;");
         Due.noFault("under r s; single t; under r s;");
         Due.noFault("ask some r a; single r;");
+        // whichever ROLE it is
+        String three = "ask some r some s some t a;";
+        int end = three.length();
+        for (String one : new String[] {"r", "s", "t"}) {
+            for (String other : new String[] {"r", "s", "t"}) {
+                String more = one.equals(other) ? one.equals("r") ? "s" : "r" : other;
+                Due.fault(three + "single " + one + ";under " + one + " " + more + ";", 6, end + 15);
+                Due.fault(three + "single " + one + ";under " + more + " " + one + ";", 6, end + 17);
+                Due.fault(three + "under " + one + " " + more + ";single " + one + ";", 6, end + 17);
+                Due.fault(three + "under " + one + " " + more + ";single " + more + ";", 6, end + 17);
+                String third = "rst".replace(one, "").replace(more, "");
+                Due.noFault(three + "under " + one + " " + more + ";single " + third + ";");
+                Due.noFault(three + "single " + third + ";under " + one + " " + more + ";");
+            }
+        }
         // what a book told before, or would have told, does not count
         TypeCourt x = Due.told("single r; under s t;");
         Due.feed(x, "single t; #");

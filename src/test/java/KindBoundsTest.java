@@ -117,6 +117,20 @@ public final class KindBoundsTest {
         }
         TypeCourt none = Due.told("single r;");
         Due.is("goes(0, 0, 0) of no ATOMS", none.goes(0, 0, 0), 1);
+        // ATOM 0 may be a ROLE's, too
+        TypeCourt top = Due.told("ask some r top; single s;");
+        for (int t = 0; t < 4; t++) {
+            Due.is("goes(" + t / 2 + ", 0, " + t % 2 + ")", top.goes(t / 2, 0, t % 2), t / 2);
+            Due.is("goes(" + t / 2 + ", 1, " + t % 2 + ")", top.goes(t / 2, 1, t % 2), 1);
+        }
+        // ATOMS SOME r top, bottom; SOME s top, bottom; SOME t top, bottom; a, b, SOME r (a and not b)
+        TypeCourt high = Due.told("ask some r top and some r bottom and some s top and some s bottom and some t top and some t bottom"
+            + " and some r (a and not b);");
+        for (int to = 0; to < 512; to++) {
+            Due.is("goes(1, 0, " + to + ")", high.goes(1, 0, to), (to >> 6 & 3) == 1 ? 0 : 1);
+            Due.is("goes(257, 0, " + to + ")", high.goes(257, 0, to), 1);
+            Due.is("goes(0, 0, " + to + ")", high.goes(0, 0, to), 0);
+        }
         // ATOM 8 is SOME r (a and b)
         TypeCourt nine = Due.told(NINE);
         Due.is("goes(511, 0, 511)", nine.goes(511, 0, 511), 1);
@@ -286,6 +300,19 @@ public final class KindBoundsTest {
         Due.is("rank(36)", y.rank(36), -1);
         Due.is("rank(40)", y.rank(40), -1);
         Due.is("rank(44)", y.rank(44), 1);
+        // whichever ROLE it is, and if ATOM 0 is of it
+        TypeCourt s = Due.told("single s; under r t; ask some s a and some s not a; ask some r a and some r not a;");
+        Due.is("ask(0)", s.ask(0), 0);
+        Due.is("ask(1)", s.ask(1), 1);
+        TypeCourt t = Due.told("under r s; single t; ask some t a and every t not a; ask some t a and some t b and not some t (a and b);"
+            + "ask some s a and some s b and not some s (a and b);");
+        Due.is("ask(0)", t.ask(0), 0);
+        Due.is("ask(1)", t.ask(1), 0);
+        Due.is("ask(2)", t.ask(2), 1);
+        TypeCourt zero = Due.told("single r; ask some r top and some r bottom; ask some r top; ask some r top and some r a;");
+        Due.is("ask(0)", zero.ask(0), 0);
+        Due.is("ask(1)", zero.ask(1), 1);
+        Due.is("ask(2)", zero.ask(2), 1);
         // the others of it must not be AT that one
         TypeCourt z = Due.told("single r; a = b; ask some r a and every r not b;");
         Due.is("ask(0)", z.ask(0), 0);

@@ -100,6 +100,21 @@ public final class TextBoundsTest {
         Due.text("state", Due.state(x), Due.state(Due.told("")));
         Due.is("ask(0)", x.ask(0), -102);
         Due.is("isUnder(0, 0)", x.isUnder(0, 0), -102);
+        // of no book before does anything stay, be it the last one or the one ahead of that
+        String[] texts = {"under r s; under t s; ask some r a and every s not a; ask some t a;",
+            "single r; single s; ask some r a and some r not a; ask some s b and some s c; a < b;",
+            "ask some s top or some r bottom; under s t; under t r; ask every r a; b < bottom; b < some r b;",
+            "single t; ask some s a and some r b and some t a; ask c; a < bottom;", "ask d; ask some t d; under s r;"};
+        for (int n = 0; n < 60; n++) {
+            String next = texts[n * n / 3 % 5];
+            Due.feed(x, next);
+            x.read();
+            TypeCourt fresh = Due.told(next);
+            Due.is("world(0)", x.world(0), fresh.world(0));
+            x.print();
+            fresh.print();
+            Due.text("state", Due.state(x), Due.state(fresh));
+        }
     }
 
     private static void faultChangesNothing() {

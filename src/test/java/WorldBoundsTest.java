@@ -108,6 +108,15 @@ public final class WorldBoundsTest {
         world(Due.told(text), 0, new int[] {42, 1, 4, 16}, new int[][] {{0, 1, 0}, {0, 2, 1}, {0, 3, 0}});
         // the first that is set, be it not the first of the ROLE
         world(Due.told(text + "single r;"), 1, new int[] {32, 16}, new int[][] {{0, 1, 0}});
+        // ATOM 0 is SOME r top, and served with it is SOME r a
+        world(Due.told("single r; ask some r top and some r a;"), 0, new int[] {5, 2}, new int[][] {{0, 1, 0}});
+        // it comes where the first one stands, ahead of that of SOME s a
+        world(Due.told("single r; ask some r top and some s a and some r a;"), 0, new int[] {13, 2}, new int[][] {{0, 1, 0}, {0, 1, 1}});
+        world(Due.told("ask some r top and some r a;"), 0, new int[] {5, 0, 2}, new int[][] {{0, 1, 0}, {0, 2, 0}});
+        // ATOMS a, SOME s a, b, SOME s b: of the second ROLE
+        String second = "ask some s a and some s b; ask some r top;";
+        world(Due.told("single r; single s;" + second), 0, new int[] {10, 5}, new int[][] {{0, 1, 1}});
+        world(Due.told("single r;" + second), 0, new int[] {10, 1, 4}, new int[][] {{0, 1, 1}, {0, 2, 1}});
         // what is 'single' is r alone
         world(Due.told(text + "single s;"), 0, new int[] {42, 1, 4, 16}, new int[][] {{0, 1, 0}, {0, 2, 1}, {0, 3, 0}});
     }
