@@ -100,7 +100,7 @@ final class Oracle {
     final List<Concept> atomParts = new ArrayList<>();
     final List<String> atomRoles = new ArrayList<>();
     private final Map<String, TreeSet<String>> above = new HashMap<>();
-    private final TreeSet<String> singles = new TreeSet<>();
+    final TreeSet<String> singles = new TreeSet<>();
     int concepts = 0;
     int types = 1;
     TreeSet<Integer> fair;

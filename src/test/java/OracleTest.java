@@ -114,7 +114,7 @@ public final class OracleTest {
     }
 
     /** A wild text has anything in it; a tame one keeps to few words, so that most are whole books. */
-    private static String text(Random random, boolean wild) {
+    static String text(Random random, boolean wild) {
         StringBuilder s = new StringBuilder();
         int names = wild ? 4 + random.nextInt(3) : 1 + random.nextInt(3);
         int roles = wild ? 2 + random.nextInt(3) : 1 + random.nextInt(2);
